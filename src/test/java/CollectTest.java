@@ -87,6 +87,7 @@ public final class CollectTest {
             }
             check.due("the 101st of " + what, desk.collect(what, valueOf(what, 101)), PortDesk.NONE);
         }
+        check.due("same() with all full", desk.same(), true);
         for (int what = 0; what < 4; what++) {
             int w = what;
             check.due("collected(" + w + ", 0)", desk.collected(w, 0), valueOf(w, 1));
