@@ -22,7 +22,7 @@ public final class PortDesk {
     }
 
     public int collect(int what, long v) {
-        if (!CollectedValues.canHold(what, v) || first.collection.isFull(what)) {
+        if (!CollectedValues.canHold(what, v)) {
             return NONE;
         }
         second.take(what, v);
@@ -148,6 +148,9 @@ public final class PortDesk {
         final Journal journal = new Journal();
 
         int take(int what, long value) {
+            if (collection.isFull(what)) {
+                return NONE;
+            }
             // A turn is a kind: canHold has let through nothing else.
             if (what == CollectedValues.TURNS && !numbers.isFull((int) value)) {
                 numbers.makeNext((int) value);

@@ -6,6 +6,12 @@ final class Check {
     }
 
     private int wrong = 0;
+    private String sentence = "";
+
+    /** The document's sentence that the answers from now on are due by. */
+    void by(String words) {
+        sentence = "\"" + words + "\": ";
+    }
 
     void due(String call, long got, long want) {
         if (got != want) {
@@ -35,7 +41,7 @@ final class Check {
 
     void tell(String fault) {
         wrong++;
-        System.out.println(fault);
+        System.out.println(sentence + fault);
     }
 
     void end() {
